@@ -315,7 +315,7 @@ public final class UsageDesk {
         }
 
         int callAt(int row, int place) {
-            if (!knows(row) || place < 0 || place >= ROW_MOST) {
+            if (row < 0 || row >= BOOK_MOST || place < 0 || place >= ROW_MOST) {
                 return NONE;
             }
             return calls[row * ROW_MOST + place];
@@ -761,14 +761,22 @@ public final class UsageDesk {
             if (slot == NONE) {
                 return false;
             }
-            if (next[slot] != NONE) {
-                stateOf[node] = next[slot];
-                return placeFrom(node + 1, used);
+            if (next[slot] == NONE) {
+                return placeFree(node, used, slot);
+            }
+            stateOf[node] = next[slot];
+            return placeFrom(node + 1, used);
+        }
+
+        /** Places a NODE whose STEP leads nowhere yet. */
+        private boolean placeFree(int node, int used, int slot) {
+            if (node < 0 || node >= LEAST_NODES || slot < 0 || slot >= LEAST_STATES * CALLS) {
+                return false;
             }
             for (int state = 0; state <= used && state < allowed; state++) {
                 next[slot] = state;
                 stateOf[node] = state;
-                if (!isLost(node) && placeFrom(node + 1, Math.max(used, state + 1))) {
+                if (!isLost(node, barredSlots()) && placeFrom(node + 1, Math.max(used, state + 1))) {
                     return true;
                 }
             }
@@ -796,8 +804,7 @@ public final class UsageDesk {
          * Whether a binding ROW is taken, or a NODE that is not placed yet will need a STEP by which
          * one would be: seen now, it spares going through all ways of the NODES between.
          */
-        private boolean isLost(int placed) {
-            int barred = barredSlots();
+        private boolean isLost(int placed, int barred) {
             if (barred == NONE) {
                 return true;
             }

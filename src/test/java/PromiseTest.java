@@ -168,6 +168,7 @@ public final class PromiseTest {
         due("the law stays, whatever is dropped", h.law(), "0a1:1 1b0:1");
         due("learn of no rows", h.desk.learn(), 1);
         due("its steps", h.law(), "");
+        due("a wrong row that is told first binds, too", learnt(new Deskhand().wrong("b").right("ab")), "2: 0a1:1 1b0:1");
         Deskhand quarrel = new Deskhand().right("ab", "abc").wrong("ab");
         due("one left out does not bind", quarrel.desk.learn(), 1);
         due("cut rows alone count", quarrel.law(), "0a0:2");
@@ -398,6 +399,12 @@ public final class PromiseTest {
         due("taking out ahead of putting", three.mended("ac"), "a 1");
         due("nothing is put behind the last", three.mended("ab"), "ab 0");
         due("a put call goes by the law", three.mended("acabcbca"), "abcabcabca 2");
+        Deskhand chain = new Deskhand().right("abcddd").wrong("d", "ad", "abd", "aa", "b", "c", "abb", "abcc", "ac");
+        chain.desk.learn();
+        due("a law of a chain", chain.law(), "0a1:1 1b2:1 2c3:1 3d3:3");
+        due("putting three one behind another", chain.mended("dddd"), "abcdddd 3");
+        due("taking out three rather than putting three", chain.mended("ddd"), " 3");
+        due("putting two between", chain.mended("adddd"), "abcdddd 2");
         Deskhand put = new Deskhand().right("adee", "bdee", "cdee").wrong("d", "e", "aa", "ade" + "d");
         put.desk.learn();
         due("the first letter that is put", put.mended("dee").charAt(0) == 'a' ? 1 : 0, 1);
