@@ -28,6 +28,37 @@ final class Deskhand {
         return this;
     }
 
+    /** Three RIGHT ROWS: chains by a, by b and d, and by e and f, with 24 + last beginnings that matter. */
+    Deskhand chains(int last) {
+        return right("e" + "f".repeat(last), "a".repeat(11) + "c", "b" + "d".repeat(10) + "g");
+    }
+
+    /** The WRONG ROWS for which no two of those beginnings can be one STATE. */
+    Deskhand barChains(int last) {
+        String a = "a".repeat(11);
+        String b = "b" + "d".repeat(10);
+        String e = "e" + "f".repeat(last);
+        wrong(a + "a", a + "d", a + "f", b + "d", b + "c", b + "f", e + "f", e + "c", e + "g");
+        for (int i = 0; i <= 10; i++) {
+            wrong("b" + "d".repeat(i) + "a");
+        }
+        for (int i = 0; i <= last; i++) {
+            wrong("e" + "f".repeat(i) + "a");
+            wrong("e" + "f".repeat(i) + "d");
+        }
+        return this;
+    }
+
+    /** One answer of told for each ROW, as "1 0 3". */
+    String toldOfAll(int what) {
+        StringBuilder all = new StringBuilder();
+        int told = desk.count(1);
+        for (int row = 0; row < told; row++) {
+            all.append(row == 0 ? "" : " ").append(desk.told(row, what));
+        }
+        return all.toString();
+    }
+
     void feed(String text) {
         for (int i = 0; i < text.length(); i += 20) {
             desk.feed(number(text, i), number(text, i + 4), number(text, i + 8),
@@ -54,21 +85,26 @@ final class Deskhand {
             return "no routine";
         }
         int size = desk.hold();
-        return size == latestBreak().length() ? latestBreak() : "of another length";
+        String found = latestBreak();
+        return size == found.length() ? found : "of another length";
     }
 
     String latestBreak() {
         StringBuilder all = new StringBuilder();
-        for (int k = 0; desk.broken(k) != UsageDesk.NONE; k++) {
-            all.append((char) ('a' + desk.broken(k)));
+        int call = desk.broken(0);
+        while (call != UsageDesk.NONE) {
+            all.append((char) ('a' + call));
+            call = desk.broken(all.length());
         }
         return all.toString();
     }
 
     String hand() {
         StringBuilder all = new StringBuilder();
-        for (int k = 0; desk.hand(k) != UsageDesk.NONE; k++) {
-            all.append((char) ('a' + desk.hand(k)));
+        int call = desk.hand(0);
+        while (call != UsageDesk.NONE) {
+            all.append((char) ('a' + call));
+            call = desk.hand(all.length());
         }
         return all.toString();
     }
@@ -84,11 +120,13 @@ final class Deskhand {
     /** All STEPS with how often they were SEEN, as "0a1:2 1b0:1". */
     String law() {
         StringBuilder all = new StringBuilder();
-        for (int state = 0; state < desk.count(2); state++) {
+        int states = desk.count(2);
+        for (int state = 0; state < states; state++) {
             for (int call = 0; call < 8; call++) {
-                if (desk.step(state, call) != UsageDesk.NONE) {
+                int to = desk.step(state, call);
+                if (to != UsageDesk.NONE) {
                     all.append(all.length() == 0 ? "" : " ").append(state).append((char) ('a' + call))
-                            .append(desk.step(state, call)).append(':').append(desk.seen(state, call));
+                            .append(to).append(':').append(desk.seen(state, call));
                 }
             }
         }

@@ -302,15 +302,15 @@ final class PlainDesk {
         return 4;
     }
 
-    /** Tries all ways to give the NODES classes; looks at a way only when it is whole. */
+    /** Tries all ways to give the NODES classes; what a few of them get wrong more can't mend. */
     private static boolean someClassesDo(List<String> nodes, int[] classes, int n, int most, Set<String> no) {
         int[] head = Arrays.copyOf(classes, n);
         Map<String, Integer> leads = steps(nodes.subList(0, n), head);
-        if (leads == null) {
+        if (leads == null || takesAny(leads, no)) {
             return false;
         }
         if (n == classes.length) {
-            return !takesAny(leads, no);
+            return true;
         }
         for (int c = 0; c < most; c++) {
             classes[n] = c;

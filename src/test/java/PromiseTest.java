@@ -197,32 +197,15 @@ public final class PromiseTest {
     }
 
     private void learnSpent() {
-        Deskhand thirty = chains(6);
+        Deskhand thirty = new Deskhand().chains(6).barChains(6);
         due("thirty states", thirty.desk.learn(), 30);
-        Deskhand more = chains(7);
+        Deskhand more = new Deskhand().chains(7).barChains(7);
         due("thirty-one", more.desk.learn(), -1);
         due("the law stays", more.desk.count(2), 1);
         due("without steps", more.desk.count(3), 0);
         more.desk.drop(0);
         more.desk.drop(1);
         due("fewer again", more.desk.learn() > 0 ? 1 : 0, 1);
-    }
-
-    /** Three chains, by a, by b and d, and by e and f, none of whose 24 + last states can be one. */
-    private static Deskhand chains(int last) {
-        String a = "a".repeat(11);
-        String b = "b" + "d".repeat(10);
-        String e = "e" + "f".repeat(last);
-        Deskhand h = new Deskhand().right(e, a + "c", b + "g");
-        h.wrong(a + "a", a + "d", a + "f", b + "d", b + "c", b + "f", e + "f", e + "c", e + "g");
-        for (int i = 0; i <= 10; i++) {
-            h.wrong("b" + "d".repeat(i) + "a");
-        }
-        for (int i = 0; i <= last; i++) {
-            h.wrong("e" + "f".repeat(i) + "a");
-            h.wrong("e" + "f".repeat(i) + "d");
-        }
-        return h;
     }
 
     private void stepAndSeen() {

@@ -100,27 +100,15 @@ public final class RandomRunsTest {
 
     private void learnAndLook() {
         ask("learn", desk::learn, plain::learn);
-        ask("least", this::leastOfDesk, this::leastOfPlain);
+        ask("least", desk::least, plain::least);
         for (int i = 0; i < 6; i++) {
-            int state = random.nextInt(Math.max(1, desk.count(2)) + 1) - (random.nextInt(9) == 0 ? 1 : 0);
+            int state = random.nextInt(plain.count(2) + 1) - (random.nextInt(9) == 0 ? 1 : 0);
             int call = random.nextInt(letters + 1) - (random.nextInt(9) == 0 ? 1 : 0);
             ask("step " + state + " " + call, () -> desk.step(state, call), () -> plain.step(state, call));
             ask("seen " + state + " " + call, () -> desk.seen(state, call), () -> plain.seen(state, call));
         }
         int n = random.nextInt(5) - 1;
         ask("doubt " + n, () -> desk.doubt(n), () -> plain.doubt(n));
-    }
-
-    /** The plain one tries all ways: only small trees are held against it. */
-    private int leastOfPlain() {
-        int nodes = plain.count(6);
-        return nodes > 11 && nodes <= 16 ? 0 : plain.least();
-    }
-
-    private int leastOfDesk() {
-        int nodes = desk.count(6);
-        int answer = desk.least();
-        return nodes > 11 && nodes <= 16 ? 0 : answer;
     }
 
     private void holdRoutine() {
