@@ -183,6 +183,11 @@ final class RoutineEdges extends Edges {
         due("the full tape is empty", h.desk.count(5), 0);
         due("break of the full one", h.desk.hold(), 1);
         due("is h", h.latestBreak(), "h");
+        Deskhand taking = new Deskhand().right("g");
+        taking.desk.learn();
+        taking.feed("gh");
+        due("routine(1) of a g that is taken", taking.desk.routine(1), 0);
+        due("no byte behind it belongs to it", taking.desk.hold(), 0);
         due("the tape begins anew", h.routine("e"), 0);
         due("with what is fed", h.desk.hold() == 1 ? h.latestBreak() : "", "e");
     }
