@@ -133,7 +133,7 @@ final class CountEdges extends Edges {
     }
 
     private void atMost512Calls() {
-        sentence(Document.TERMS, "An object is used for at most 512 calls after it has been made");
+        sentence(Document.TERMS, "An object is used for at most 512 calls after it has been made; what later calls answer is free.");
         UsageDesk d = new UsageDesk();
         for (int call = 1; call <= 510; call++) {
             d.push(call % 8);

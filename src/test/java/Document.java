@@ -5,16 +5,20 @@ import java.nio.file.Path;
 
 /** The words of the document, by promise, and which of them a test was written for. */
 final class Document {
-    /** All that stands ahead of the promises. */
+    /** All that stands ahead of the promises but the face. */
     static final int TERMS = 0;
     static final int PROMISES = 21;
 
     private final String[] parts = new String[PROMISES + 1];
     private final boolean[][] named = new boolean[PROMISES + 1][];
+    private final String face;
 
     Document() {
         String text = read();
-        parts[TERMS] = between(text, "## What it is", "## Promise 1:");
+        face = between(text, "```java\n", "```");
+        parts[TERMS] = between(text, "## What it is", "## The public face")
+                + between(text, "## Terms", "## Promise 1:").replaceAll("```(text)?", "");
+        parts[TERMS] = parts[TERMS].replaceAll("==== \\d\\.", "");
         for (int promise = 1; promise <= PROMISES; promise++) {
             String part = between(text, "## Promise " + promise + ":", "\n## ");
             // behind the heading and the signature
@@ -37,6 +41,11 @@ final class Document {
     private static String between(String text, String start, String end) {
         int from = text.indexOf(start) + start.length();
         return text.substring(from, text.indexOf(end, from));
+    }
+
+    /** The class's face as the document writes it, in Java. */
+    String face() {
+        return face;
     }
 
     /** Whether the words stand there; they are named then. */

@@ -1,22 +1,21 @@
 import java.io.IOException;
 import java.lang.management.ManagementFactory;
 import java.lang.reflect.Constructor;
+import java.lang.reflect.Executable;
 import java.lang.reflect.Field;
+import java.lang.reflect.Member;
 import java.lang.reflect.Method;
 import java.lang.reflect.Modifier;
 import java.nio.file.Files;
 import java.nio.file.Path;
 import java.util.Set;
+import java.util.StringJoiner;
 import java.util.TreeSet;
 import java.util.regex.Matcher;
 import java.util.regex.Pattern;
 
 /** The class's public face, and those rules of LANGUAGE.md that a test can see. */
 public final class FaceTest {
-    private static final String FACE = "broken(int)int count(int)int doubt(int)int drop(int)boolean empty()int "
-            + "feed(int,int,int,int,int)int habit(int,int,int)int hand(int)int hold()int learn()int least()int mend()int "
-            + "push(int)int rank(int,int)int routine(int)int row(boolean)int seen(int,int)int step(int,int)int takes()int "
-            + "told(int,int)int";
     /** What the rules leave out, as it would stand in the source. */
     private static final String[] BARRED = {"->", "::", "catch", "finally", "synchronized", "assert ", "static {",
         "System.", "Thread", "Exact(", "instanceof", "double", "float", "goto", "import java.io", "HashMap", "hashCode"};
@@ -32,27 +31,54 @@ public final class FaceTest {
         test.checks.end();
     }
 
+    /** The document's face and the class's, each as lines without the parameters' names. */
     private void face() {
         Class<?> c = UsageDesk.class;
         checks.due("public and final", c.getModifiers(), Modifier.PUBLIC | Modifier.FINAL);
-        Set<String> face = new TreeSet<>();
+        Set<String> has = new TreeSet<>();
+        has.add("class UsageDesk {");
+        has.add("}");
         for (Method m : c.getDeclaredMethods()) {
-            if (Modifier.isPublic(m.getModifiers())) {
-                face.add(m.toString().replaceAll(".*UsageDesk\\.(\\S+\\)).*", "$1") + m.getReturnType());
-            } else {
-                checks.due(m + " is private", Modifier.isPrivate(m.getModifiers()) ? 1 : 0, 1);
-            }
+            addOrSeeThatPrivate(has, m, m.getReturnType() + " " + m.getName() + parameters(m) + thrown(m));
         }
-        checks.due("face", String.join(" ", face), FACE);
+        for (Constructor<?> made : c.getDeclaredConstructors()) {
+            addOrSeeThatPrivate(has, made, "UsageDesk" + parameters(made) + thrown(made));
+        }
         for (Field f : c.getDeclaredFields()) {
-            boolean known = f.getName().equals("NONE") && Modifier.isPublic(f.getModifiers());
-            checks.due(f + " is private", known || Modifier.isPrivate(f.getModifiers()) ? 1 : 0, 1);
+            addOrSeeThatPrivate(has, f, f.getType() + " " + f.getName() + " = " + UsageDesk.NONE + ";");
             boolean fixed = !Modifier.isStatic(f.getModifiers()) || Modifier.isFinal(f.getModifiers());
             checks.due(f + " is no static state", fixed ? 1 : 0, 1);
         }
-        Constructor<?>[] all = c.getDeclaredConstructors();
-        checks.due("one constructor", all.length, 1);
-        checks.due("without parameters", all[0].getParameterCount(), 0);
+        Set<String> due = new TreeSet<>();
+        for (String line : new Document().face().split("\n")) {
+            due.add(line.trim().replaceAll("^public (?:static )?(?:final )?", "").replaceAll("(int|boolean) \\w+(?=[,)])", "$1"));
+        }
+        checks.due("lines of the face", due.size(), 24);
+        checks.due("face", String.join("\n", has), String.join("\n", due));
+    }
+
+    private void addOrSeeThatPrivate(Set<String> face, Member member, String line) {
+        if (Modifier.isPublic(member.getModifiers())) {
+            face.add(line);
+        } else {
+            checks.due(member + " is private", Modifier.isPrivate(member.getModifiers()) ? 1 : 0, 1);
+        }
+    }
+
+    private static String parameters(Executable called) {
+        StringJoiner all = new StringJoiner(", ", "(", ")");
+        for (Class<?> type : called.getParameterTypes()) {
+            all.add(type.getSimpleName());
+        }
+        return all.toString();
+    }
+
+    private static String thrown(Executable called) {
+        StringJoiner all = new StringJoiner(", ", " throws ", ";").setEmptyValue(";");
+        for (Class<?> type : called.getExceptionTypes()) {
+            all.add(type.getSimpleName());
+        }
+        return all.toString();
     }
 
     private void nestedClasses() {
